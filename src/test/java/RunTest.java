@@ -86,6 +86,11 @@ public final class RunTest {
             }
         }
         due.is("bits 13 to 15 count for nothing", after(Code.set(5, 9) | 7 << 13).register(5), 9);
+        due.is("b and c count for nothing in 1", after(Code.word(1, 5, 1, 2, 9)).register(5), 9);
+        due.is("c counts for nothing in 2", after(Code.word(2, 5, 1, 3, 9)).register(5), 16);
+        due.is("c counts for nothing in 7", after(Code.word(7, 5, 1, 3, -7)).register(5), Code.word(7, 5, 1, 3, -7));
+        due.is("c counts for nothing in 9", after(Code.word(9, 1, 1, 3, 9)).pc(), 10);
+        due.is("a, b and c count for nothing in 11", after(Code.word(11, 5, 1, 3, 99)).register(1), EnclaveWarden.NONE);
     }
 
     private static void registerZero(Due due) {
@@ -98,6 +103,7 @@ public final class RunTest {
         due.is("r0 stays 0", x.register(0), 0);
         due.is("r0 counts 0", x.register(5), 6);
         due.is("r0 is written as 0", x.peek(99), 0);
+        due.is("a word that was read stays", x.peek(0), Code.set(0, 9));
     }
 
     private static void readAndWrite(Due due) {
@@ -112,6 +118,9 @@ public final class RunTest {
         due.is("7 after 8", x.register(4), -77);
         due.is("8 at 127", x.peek(127), -77);
         due.is("pc", x.pc(), 4);
+        EnclaveWarden y = after(Code.write(1, 1, 50));
+        due.is("8 with a register that is the place too", y.peek(57), 7);
+        due.is("is no branch", y.pc(), 1);
         x.poke(4, Code.write(5, 0, 5));
         x.give(5, Code.set(6, 66));
         x.run(2);
@@ -156,6 +165,7 @@ public final class RunTest {
     private static void branches(Due due) {
         due.is("9, equal to itself", after(Code.ifEqual(1, 1, 30)).pc(), 31);
         due.is("9, not equal", after(Code.ifEqual(1, 2, 30)).pc(), 1);
+        due.is("9, less", after(Code.ifEqual(2, 1, 30)).pc(), 1);
         due.is("9, back", after(Code.ifEqual(0, 0, -9)).pc(), -8);
         due.is("9, greatest", after(Code.ifEqual(0, 0, 32767)).pc(), 32768);
         due.is("9, least", after(Code.ifEqual(0, 0, -32768)).pc(), -32767);

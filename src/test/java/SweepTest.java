@@ -1,7 +1,8 @@
 /** No call throws, whatever its arguments, and what the document says of every state holds in every state reached. */
 public final class SweepTest {
-    private static final int OBJECTS = 400;
-    private static final int CALLS = 512;
+    private static final int OBJECTS = 2000;
+    // With the questions of oneState still within the 512 calls that an object is used for.
+    private static final int CALLS = 360;
     private static final int[] EDGES = {-1, 3, 16, 255, 256, 1000, 1001, Integer.MIN_VALUE, Integer.MAX_VALUE};
 
     private long seed = 20261115;
@@ -99,8 +100,9 @@ public final class SweepTest {
             due.yes("a block of " + block, x.enclave(e) == 0 ? block == 0 : block == 1 || block == 2 || block == 4);
             due.yes("shared regions", counts[5 + e] <= (x.enclave(e) == 0 ? 0 : 2));
         }
-        for (int p = 0; p < 256; p++) {
-            int kind = x.region(p / 16);
+        for (int r = 0; r < 16; r++) {
+            int p = 16 * r + below(16);
+            int kind = x.region(r);
             boolean may = kind == 1 || kind >= 5;
             due.is("peek", x.peek(p), may ? x.bare(p) : 0);
             due.yes("FREE words are 0", kind != 0 || x.bare(p) == 0);
