@@ -41,9 +41,16 @@ public final class FaceTest {
             }
         }
         due.yes("the methods " + seen, seen.equals(METHODS));
-        for (Method m : EnclaveWarden.class.getDeclaredMethods()) {
+        privateNames(due, EnclaveWarden.class, names);
+        for (Class<?> c : EnclaveWarden.class.getDeclaredClasses()) {
+            privateNames(due, c, names);
+        }
+    }
+
+    private static void privateNames(Due due, Class<?> c, Set<String> publicNames) {
+        for (Method m : c.getDeclaredMethods()) {
             if (Modifier.isPrivate(m.getModifiers())) {
-                due.no("private " + m.getName() + " has a public name", names.contains(m.getName()));
+                due.no("private " + m.getName() + " has a public name", publicNames.contains(m.getName()));
             }
         }
     }
