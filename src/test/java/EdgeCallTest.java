@@ -1,3 +1,5 @@
+import java.util.ArrayList;
+import java.util.List;
 import java.util.function.Consumer;
 
 /** What the calls of the system and of an enclave do at their edges, each sentence with a test of its own. */
@@ -20,6 +22,9 @@ public final class EdgeCallTest {
         destroyedAtTheEnds(due);
         claimed(due);
         yielded(due);
+        changesWhileBuilding(due);
+        changesWhileRunning(due);
+        changesOfRegions(due);
         zeroIsTheAnswer(due);
         argumentsThatAreNotNamed(due);
         enteredByAnInstruction(due);
@@ -233,6 +238,52 @@ public final class EdgeCallTest {
                 due.is("bare " + p, x.bare(p), p / 16 == r ? 0 : p + 1);
             }
         }
+    }
+
+    private static void changesWhileBuilding(Due due) {
+        due.sentence("CREATE", "the regions become its block");
+        Twins.changes(due, "CREATE", Scene::absent, x -> x.call(Code.CREATE, 10, 2, 0),
+            List.of("enclave 1", "measure 1", "region 10", "region 11"));
+        due.sentence("LOAD", "The 16 words of C are copied to B");
+        Twins.changes(due, "LOAD", Scene::threadless, x -> x.call(Code.LOAD, 1, 10, 7), withWords(160, "measure 1"));
+        due.sentence("THREAD", "A READY thread is added; 3 and B are added to the measure.");
+        Twins.changes(due, "THREAD", Scene::threadless, x -> x.call(Code.THREAD, 1, 175, 0), List.of("measure 1", "thread 1, 0"));
+        due.sentence("SEAL", "It is SEALED; 4 is added to the measure.");
+        Twins.changes(due, "SEAL", Scene::full, x -> x.call(Code.SEAL, 1, 0, 0), List.of("enclave 1", "measure 1"));
+    }
+
+    private static void changesWhileRunning(Due due) {
+        due.sentence("ENTER", "The thread is RUNNING from its entry on, with r1 = C and the other registers 0.");
+        Twins.changes(due, "ENTER", Scene::full, x -> x.call(Code.ENTER, 0, 1, 9),
+            List.of("running", "thread 0, 1", "kept 0, 1, 1", "kept 0, 1, 8"));
+        due.sentence("RESUME", "The thread is RUNNING again with its registers and PC.");
+        Twins.changes(due, "RESUME", Scene::full, x -> x.call(Code.RESUME, 0, 0, 9), List.of("running", "thread 0, 0"));
+        due.sentence("STOP", "It is STOPPED; its threads stay as they are.");
+        Twins.changes(due, "STOP", Scene::full, x -> x.call(Code.STOP, 0, 0, 0), List.of("enclave 0"));
+        due.sentence("CALLS OF AN ENCLAVE", "16 EXIT: its thread becomes READY (registers and PC are forgotten) and is LEFT with kind 1 and value A; no answer is put anywhere.");
+        Twins.changes(due, "EXIT", Scene::busy, x -> x.run(1), List.of("register 1", "register 2", "tick", "running",
+            "exit 0", "exit 1", "exit 2", "exit 3", "exit 4", "thread 0, 1", "kept 0, 1, 1", "kept 0, 1, 8"));
+    }
+
+    private static void changesOfRegions(Due due) {
+        due.sentence("SHARE", "The region becomes SHARED with A; its words stay, and the measure too.");
+        Twins.changes(due, "SHARE", Scene::full, x -> x.call(Code.SHARE, 2, 7, 0), List.of("region 7"));
+        due.sentence("DESTROY", "it is ABSENT");
+        Twins.changes(due, "DESTROY", Scene::full, x -> x.call(Code.DESTROY, 1, 0, 0),
+            withWords(160, "enclave 1", "measure 1", "thread 1, 0", "thread 1, 1", "region 3", "region 10"));
+        due.sentence("CLAIM", "It becomes OWN.");
+        Twins.changes(due, "CLAIM", Scene::full, x -> x.call(Code.CLAIM, 11, 0, 0), List.of("region 11"));
+        due.sentence("YIELD", "Its words become 0 and it is FREE.");
+        Twins.changes(due, "YIELD", Scene::full, x -> x.call(Code.YIELD, 7, 0, 0), withWords(112, "region 7"));
+    }
+
+    /** These names, and those of the sixteen words from address p on. */
+    private static List<String> withWords(int p, String... names) {
+        List<String> all = new ArrayList<>(List.of(names));
+        for (int k = 0; k < 16; k++) {
+            all.add("bare " + (p + k));
+        }
+        return all;
     }
 
     private static void zeroIsTheAnswer(Due due) {

@@ -8,6 +8,10 @@ public final class EdgePromiseTest {
     private static final int[] ENDS = {0, 1, -1, MIN, MAX};
     private static final int[] NO_ADDRESSES = {-1, -16, 256, 271, 65536, MIN, MAX};
     private static final int[] PRIVATE_OR_FREE = {128, 143, 144, 159, 160, 175, 176, 191, 192, 240, 255};
+    /** Every call of the system, most of them heard in Scene.full, and one that is none. */
+    private static final int[][] CALLS = {{Code.CREATE, 11, 1, 0}, {Code.LOAD, 1, 10, 7}, {Code.THREAD, 1, 160, 0}, {Code.SEAL, 1, 0, 0},
+        {Code.SHARE, 2, 4, 0}, {Code.ENTER, 0, 1, 5}, {Code.RESUME, 0, 0, 0}, {Code.STOP, 0, 0, 0}, {Code.DESTROY, 1, 0, 0},
+        {Code.CLAIM, 11, 0, 0}, {Code.YIELD, 4, 0, 0}, {Code.EXIT, 0, 0, 0}};
 
     public static void main(String[] args) {
         Due due = new Due();
@@ -301,10 +305,7 @@ public final class EdgePromiseTest {
 
     private static void callWhileHalted10(Due due) {
         due.sentence("Promise 10", "The system makes call f with A = a, B = b, C = c, also if it is HALTED: the answer");
-        int[][] calls = {{Code.CREATE, 11, 1, 0}, {Code.LOAD, 1, 10, 7}, {Code.THREAD, 1, 160, 0}, {Code.SEAL, 1, 0, 0},
-            {Code.SHARE, 2, 4, 0}, {Code.ENTER, 0, 1, 5}, {Code.RESUME, 0, 0, 0}, {Code.STOP, 0, 0, 0}, {Code.DESTROY, 1, 0, 0},
-            {Code.CLAIM, 11, 0, 0}, {Code.YIELD, 4, 0, 0}, {16, 0, 0, 0}};
-        for (int[] c : calls) {
+        for (int[] c : CALLS) {
             EnclaveWarden x = Twins.machine(Scene::halted);
             EnclaveWarden y = Twins.machine(Scene::full);
             due.is("call " + c[0], x.call(c[0], c[1], c[2], c[3]), y.call(c[0], c[1], c[2], c[3]));
@@ -322,22 +323,24 @@ public final class EdgePromiseTest {
 
     private static void callBusy10(Due due) {
         due.sentence("Promise 10", "BUSY, changing nothing, if an enclave runs");
-        int[][] calls = {{Code.CREATE, 11, 1, 0}, {Code.LOAD, 1, 10, 7}, {Code.THREAD, 1, 160, 0}, {Code.SEAL, 1, 0, 0},
-            {Code.SHARE, 2, 4, 0}, {Code.ENTER, 0, 1, 5}, {Code.RESUME, 0, 0, 0}, {Code.STOP, 0, 0, 0}, {Code.DESTROY, 1, 0, 0},
-            {Code.CLAIM, 11, 0, 0}, {Code.YIELD, 4, 0, 0}, {16, 0, 0, 0}, {17, 0, 0, 0}, {0, 0, 0, 0}, {-1, 0, 0, 0},
-            {Code.CREATE, 16, 3, 0}, {Code.SEAL, 3, 0, 0}, {MIN, MIN, MIN, MIN}, {MAX, MAX, MAX, MAX}};
-        for (int[] c : calls) {
-            due.is("call " + c[0], Twins.machine(Scene::busy).call(c[0], c[1], c[2], c[3]), EnclaveWarden.BUSY);
-            Twins.unchanged(due, "call " + c[0], Scene::busy, x -> x.call(c[0], c[1], c[2], c[3]));
+        for (int[] c : CALLS) {
+            callIsBusy(due, c);
         }
+        int[][] refusedOtherwise = {{Code.CREATE, 16, 3, 0}, {Code.SEAL, 3, 0, 0}, {17, 0, 0, 0}, {0, 0, 0, 0}, {-1, 0, 0, 0},
+            {MIN, MIN, MIN, MIN}, {MAX, MAX, MAX, MAX}};
+        for (int[] c : refusedOtherwise) {
+            callIsBusy(due, c);
+        }
+    }
+
+    private static void callIsBusy(Due due, int[] c) {
+        due.is("call " + c[0], Twins.machine(Scene::busy).call(c[0], c[1], c[2], c[3]), EnclaveWarden.BUSY);
+        Twins.unchanged(due, "call " + c[0], Scene::busy, x -> x.call(c[0], c[1], c[2], c[3]));
     }
 
     private static void callIsNoStep10(Due due) {
         due.sentence("Promise 10", "It is no step: the system's registers and PC and TICK stay.");
-        int[][] calls = {{Code.CREATE, 11, 1, 0}, {Code.LOAD, 1, 10, 7}, {Code.THREAD, 1, 160, 0}, {Code.SEAL, 1, 0, 0},
-            {Code.SHARE, 2, 4, 0}, {Code.ENTER, 0, 1, 5}, {Code.RESUME, 0, 0, 0}, {Code.STOP, 0, 0, 0}, {Code.DESTROY, 1, 0, 0},
-            {Code.CLAIM, 11, 0, 0}, {Code.YIELD, 4, 0, 0}, {16, 0, 0, 0}};
-        for (int[] c : calls) {
+        for (int[] c : CALLS) {
             EnclaveWarden x = Twins.machine(Scene::full);
             x.call(c[0], c[1], c[2], c[3]);
             for (int k = 1; k < 8; k++) {

@@ -24,6 +24,19 @@ final class Twins {
         due.same(what + ", later", later(machine(past.andThen(one))), later(machine(past.andThen(other))));
     }
 
+    /** Of all that a machine tells the call changes these answers and no others. */
+    static void changes(Due due, String what, Consumer<EnclaveWarden> past, Consumer<EnclaveWarden> call, List<String> names) {
+        List<String> before = State.of(machine(past));
+        List<String> after = State.of(machine(past.andThen(call)));
+        List<String> changed = new ArrayList<>();
+        for (int k = 0; k < before.size(); k++) {
+            if (!before.get(k).equals(after.get(k))) {
+                changed.add(before.get(k).substring(0, before.get(k).indexOf(" is ")));
+            }
+        }
+        due.same(what + " changes " + changed, changed, names);
+    }
+
     // PERIOD, the secret, the LOADs that are left and the entries of the threads show in what comes later alone.
     private static List<String> later(EnclaveWarden x) {
         List<String> told = new ArrayList<>();
